@@ -226,13 +226,13 @@ public final class BullStreet {
     public int begin(int p, int n) {
         if (!now.hasPerson(p) || !isTenths(n)) return BAD;
         int best = 0;
-        int fewest = Integer.MAX_VALUE;
+        int fewest = 0;
         for (int c = 0; c < now.cells; c++) {
             trial.copy(now);
             trial.seat(p, c);
             trial.goOn(n, null);
             // all TRIALS begin with the same HURTS: fewest in the end are fewest more
-            if (trial.hurts[p] < fewest) {
+            if (c == 0 || trial.hurts[p] < fewest) {
                 fewest = trial.hurts[p];
                 best = c;
             }

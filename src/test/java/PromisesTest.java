@@ -177,6 +177,8 @@ public final class PromisesTest {
         due("NEAR without one", x.personOf(0, 4), 99);
         x.beast(6, 1);
         due("NEAR, one ahead", x.personOf(0, 4), 99);
+        x.beast(0, 1);
+        due("NEAR, one in the first cell", x.personOf(0, 4), 5);
         x.beast(1, 1);
         due("NEAR, one behind", x.personOf(0, 4), 4);
         x.beast(3, 1);
@@ -275,6 +277,18 @@ public final class PromisesTest {
         read(x, "all run;all run;");
         fault(x, "person run;", 0);
         fault(x, " alls run;", 1);
+        fault(x, "allz run;", 0);
+        fault(x, "all{ run;", 3);
+        fault(x, "`all run;", 0);
+        fault(x, "all run if 1<9:;", 14);
+        fault(x, "all run if 1<0/;", 14);
+        fault(x, "all run if all<1;", 11);
+        fault(x, "all run if 1<all;", 13);
+        fault(x, "run run;", 0);
+        fault(x, "all near;", 4);
+        fault(x, ";".repeat(200), 0);
+        fault(x, "all run;" + " ".repeat(191) + "a", 199);
+        fault(x, "all run;" + " ".repeat(189) + "all", 200);
         fault(x, "al run;", 0);
         fault(x, "allrun;", 0);
         fault(x, "All run;", 0);
@@ -623,6 +637,17 @@ public final class PromisesTest {
         y.run(1);
         due("BEGIN is told by more HURTS", y.begin(0, 1), 0);
         due("nothing changes", y.personOf(0, 1), 3);
+        BullStreet v = new BullStreet();
+        v.street(2);
+        lone(v, 1, 1);
+        v.person(HEAPED, 1, 1);
+        due("no cell is safe: of several the first", v.begin(0, 5), 0);
+        BullStreet w = new BullStreet();
+        w.street(30);
+        for (int c = 1; c < 30; c += 5) lone(w, c, 1);
+        w.person(HEAPED, 1, 1);
+        due("the last is farthest, from 26", w.begin(0, 60), 29);
+        due("3 is the first as far as two tenths", w.begin(0, 1), 3);
         for (int p : new int[] {-1, 1, LOW, HIGH}) due("person " + p, y.begin(p, 1), BAD);
         for (int n : new int[] {-1, 61, LOW, HIGH}) due("n " + n, y.begin(0, n), BAD);
     }
@@ -645,6 +670,26 @@ public final class PromisesTest {
         due("a door that is there counts nothing", x.door(9), 3);
         x.cell(3, 2, 1);
         due("all are wanted no more", x.door(9), NONE);
+        BullStreet y = new BullStreet();
+        y.street(30);
+        y.cell(0, 2, 1);
+        y.person(HEAPED, 29, 1);
+        lone(y, 29, 1);
+        read(y, "all leave;");
+        due("the last cell", y.door(2), 29);
+        y.cell(0, 2, 0);
+        y.person(HEAPED, 0, 1);
+        y.person(HEAPED, 0, 1);
+        y.beast(0, 4);
+        read(y, "heaped leave if place=0;");
+        due("no beast comes to the first cell", y.door(2), NONE);
+        BullStreet v = new BullStreet();
+        v.person(STANDING, 0, 1);
+        lone(v, 1, 1);
+        read(v, "all leave if crowd=1;all stand;");
+        v.rule(1, 9);
+        v.moves(0, 0, FALLEN);
+        due("the first cell", v.door(5), 0);
         for (int n : new int[] {-1, 61, LOW, HIGH}) due("n " + n, x.door(n), BAD);
     }
 
@@ -661,6 +706,10 @@ public final class PromisesTest {
         y.person(HEAPED, 5, 1);
         y.person(STANDING, 5, 1);
         due("the first is heaped", y.limit(3), 0);
+        BullStreet v = new BullStreet();
+        v.person(STANDING, 5, 1);
+        v.person(HEAPED, 5, 1);
+        due("the first alone", v.limit(3), 1);
         read(y, "heaped run if crowd>1;");
         due("with the second he isn't: the greatest m", y.limit(3), 2);
         y.cell(5, 2, 1);
@@ -986,6 +1035,7 @@ public final class PromisesTest {
         acts(x, 0, 0, 9, 10);
         acts(x, 0, 1, 18, 11, 10);
         acts(x, 0, 2, -2, 40, 12);
+        due("8 + 1 by 2 - 5", x.act(0, 2, 8), -3);
         acts(x, 0, 3, 18 ^ 5, 13, 11, 10);
         x.moves(5, 0, TOUCHING);
         acts(x, 0, 0, 27 ^ 5, 50, 20, 10);
@@ -1001,6 +1051,7 @@ public final class PromisesTest {
         acts(x, 0, 0, 4, 71, 10);
         acts(x, 0, 1, 8, 11, 71, 10);
         acts(x, 0, 2, -2 ^ 1, 70, 40, 12);
+        due("9 by 2 - 5, ^ 1", x.act(0, 2, 8), -3 ^ 1);
         acts(x, 0, 3, 8 ^ 5, 13, 11, 71, 10);
         x.moves(5, 0, LEAVING);
         acts(x, 0, 0, 9, 10);
