@@ -309,6 +309,7 @@ public final class PromisesTest {
         fault(x, "all run if near<1 2;", 18);
         fault(x, "all run if near<=1;", 16);
         fault(x, "all run if near!1;", 15);
+        fault(x, "all run if near?1;", 15);
         fault(x, "all run if 12345<1;", 11);
         fault(x, "all run if 1<00001;", 13);
         fault(x, "all run if 1<2 and;", 18);
