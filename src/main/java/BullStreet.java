@@ -372,10 +372,9 @@ public final class BullStreet {
 
     public int shelf(int shelf, int what, int n) {
         if (!isHolder(shelf) || !isThing(what, n)) return BAD;
-        Sheet row = what == HOLDS_ROW ? sheets[n] : null;
-        shelfWhat[shelf] = what == HOLDS_ROW && row == null ? HOLDS_NOTHING : what;
+        shelfWhat[shelf] = what;
         shelfNumber[shelf] = n;
-        shelfRows[shelf] = row;
+        shelfRows[shelf] = what == HOLDS_ROW ? sheets[n] : null;
         return 1;
     }
 
